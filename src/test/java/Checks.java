@@ -4,120 +4,83 @@ import java.time.LocalDateTime;
 import java.time.LocalTime;
 import java.time.ZoneOffset;
 
-/** What the project's tests share: counting of wrong answers, rows from texts, and exceptions as numbers. */
+/** What the project's tests share: a test for each sentence, counting of wrong answers, and numbers that name nothing. */
 final class Checks {
-    static final int ARGUMENT = -1001;
-    static final int INDEX = -1002;
-    static final int STATE = -1003;
+    static final int[] NO_ROWS = {-1, 2, 3, 256, 65536, -65536, Integer.MIN_VALUE, Integer.MIN_VALUE + 1, Integer.MAX_VALUE};
 
-    private static int wrong = 0;
+    /** No slots, nor places in one: among them those that would be one if a multiple of 32 wrapped around. */
+    static final int[] NO_SLOTS = {-1, -2, -31, -32, 32, 33, 63, 256, 1023, 1024, 1 << 27, (1 << 27) + 1, -(1 << 27),
+        Integer.MIN_VALUE, Integer.MIN_VALUE + 1, Integer.MAX_VALUE, Integer.MAX_VALUE - 1};
+
+    private static final int MOST_LINES = 20;
+
+    private static String words = "";
+    private static int sentences = 0;
     private static int looked = 0;
+    private static int wrong = 0;
+    private static int wrongHere = 0;
 
     private Checks() {
+    }
+
+    /** Runs the test of one sentence, or of a part of one, which is told in the document's own words. */
+    static void sentence(String quoted, Runnable test) {
+        words = quoted;
+        wrongHere = 0;
+        int before = looked;
+        try {
+            test.run();
+        } catch (RuntimeException e) {
+            tell("threw " + e + " at " + (e.getStackTrace().length > 0 ? e.getStackTrace()[0] : "?"));
+        }
+        if (looked == before && wrongHere == 0) {
+            tell("no answer was looked at");
+        }
+        if (wrongHere > MOST_LINES) {
+            System.out.println("  .. and " + (wrongHere - MOST_LINES) + " more");
+        }
+        sentences++;
     }
 
     static void due(String call, long got, long want) {
         looked++;
         if (got != want) {
-            wrong++;
-            System.out.println(call + " answered " + got + ", due is " + want);
+            tell(call + " answered " + got + ", due is " + want);
         }
-    }
-
-    static void due(String call, boolean got, boolean want) {
-        due(call, got ? 1 : 0, want ? 1 : 0);
     }
 
     static void due(String call, String got, String want) {
         looked++;
         if (!got.equals(want)) {
-            wrong++;
-            System.out.println(call + " answered <" + got + ">, due is <" + want + ">");
+            tell(call + " answered <" + got + ">, due is <" + want + ">");
         }
+    }
+
+    private static void tell(String what) {
+        wrong++;
+        wrongHere++;
+        if (wrongHere <= MOST_LINES) {
+            System.out.println("  [" + words + "] " + readable(what));
+        }
+    }
+
+    private static String readable(String text) {
+        StringBuilder out = new StringBuilder();
+        for (char c : text.toCharArray()) {
+            if (c < 32 || c > 126) {
+                out.append('{').append((int) c).append('}');
+            } else {
+                out.append(c);
+            }
+        }
+        return out.toString();
     }
 
     static void finish() {
-        System.out.println(looked + " answers looked at, " + wrong + " wrong");
-        if (wrong != 0 || looked == 0) {
+        System.out.println(sentences + " sentences, " + looked + " answers looked at, " + wrong + " wrong");
+        if (wrong != 0 || sentences == 0) {
             System.exit(1);
         }
-    }
-
-    /** A new object whose row 0 has the text's units. */
-    static LongNames with(String text) {
-        LongNames x = new LongNames();
-        fill(x, 0, text);
-        return x;
-    }
-
-    static void fill(LongNames x, int row, String text) {
-        x.clear(row);
-        for (int i = 0; i < text.length(); i++) {
-            due("unit of a text", x.unit(row, text.charAt(i)), true);
-        }
-    }
-
-    /** The units of a row whose units all stand below 128, which letter gives back as they are. */
-    static String text(LongNames x, int row) {
-        StringBuilder text = new StringBuilder();
-        for (int i = 0; i < x.about(row, 4); i++) {
-            text.append((char) x.letter(row, i));
-        }
-        return text.toString();
-    }
-
-    static int write(LongNames x, int row, int slot, int tail) {
-        try {
-            return x.write(row, slot, tail);
-        } catch (IllegalArgumentException e) {
-            return only(e, IllegalArgumentException.class, ARGUMENT);
-        } catch (IndexOutOfBoundsException e) {
-            return only(e, IndexOutOfBoundsException.class, INDEX);
-        }
-    }
-
-    static int read(LongNames x, int row, int slot, int parts) {
-        try {
-            return x.read(row, slot, parts);
-        } catch (IllegalArgumentException e) {
-            return only(e, IllegalArgumentException.class, ARGUMENT);
-        } catch (IndexOutOfBoundsException e) {
-            return only(e, IndexOutOfBoundsException.class, INDEX);
-        } catch (IllegalStateException e) {
-            return only(e, IllegalStateException.class, STATE);
-        }
-    }
-
-    /** The machine's own exceptions are below those of the document, and must not pass for them. */
-    private static int only(RuntimeException e, Class<?> kind, int answer) {
-        if (e.getClass() != kind) {
-            throw e;
-        }
-        return answer;
-    }
-
-    static String entry(LongNames x, int slot) {
-        StringBuilder entry = new StringBuilder();
-        for (int at = 0; at < 11; at++) {
-            entry.append((char) x.byteAt(slot, at));
-        }
-        return entry.toString();
-    }
-
-    static void pokeEntry(LongNames x, int slot, String entry) {
-        for (int at = 0; at < 11; at++) {
-            x.poke(slot, at, entry.charAt(at));
-        }
-    }
-
-    static String slots(LongNames x) {
-        StringBuilder all = new StringBuilder();
-        for (int slot = 0; slot < 32; slot++) {
-            for (int at = 0; at < 32; at++) {
-                all.append((char) x.byteAt(slot, at));
-            }
-        }
-        return all.toString();
     }
 
     static int sumOf(String eleven) {
@@ -126,6 +89,14 @@ final class Checks {
             sum = ((sum % 2 == 1 ? 128 : 0) + sum / 2 + c) % 256;
         }
         return sum;
+    }
+
+    static String padded(String text, int size) {
+        return text + " ".repeat(size - text.length());
+    }
+
+    static boolean inShortName(int u) {
+        return u < 128 && "ABCDEFGHIJKLMNOPQRSTUVWXYZ0123456789!#$%&'()-@^_`{}~".indexOf(u) >= 0;
     }
 
     /** Of numbers 0 .. 65535, by Java's own calendar. */

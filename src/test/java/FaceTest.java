@@ -15,36 +15,54 @@ public final class FaceTest {
         "int sum(int)", "int write(int, int, int) IllegalArgumentException IndexOutOfBoundsException",
         "long seconds(int, int)"};
 
+    private static final Class<LongNames> OURS = LongNames.class;
+
     public static void main(String[] args) {
-        Class<?> face = LongNames.class;
-        Checks.due("modifiers", face.getModifiers(), Modifier.PUBLIC | Modifier.FINAL);
-        methods(face);
-        fields(face);
-        Constructor<?>[] made = face.getDeclaredConstructors();
-        Checks.due("constructors", made.length, 1);
-        Checks.due("constructor", made[0].getModifiers() == Modifier.PUBLIC && made[0].getParameterCount() == 0, true);
-        for (Class<?> inside : face.getDeclaredClasses()) {
-            int modifiers = inside.getModifiers();
-            Checks.due(inside + " is static", Modifier.isStatic(modifiers), true);
-            Checks.due(inside + " is not public", (modifiers & (Modifier.PUBLIC | Modifier.PROTECTED)) == 0, true);
-        }
+        Checks.sentence("public final class LongNames", FaceTest::itself);
+        Checks.sentence("public LongNames();", FaceTest::constructors);
+        Checks.sentence("The public face", FaceTest::methods);
+        Checks.sentence("public static final int NONE = -1;", FaceTest::fields);
+        Checks.sentence("LANGUAGE.md 1: the classes inside it, which are private or package-visible and static", FaceTest::inside);
         Checks.finish();
     }
 
-    private static void methods(Class<?> face) {
+    private static void dueTrue(String what, boolean got) {
+        Checks.due(what, got ? 1 : 0, 1);
+    }
+
+    private static void itself() {
+        Checks.due("modifiers", OURS.getModifiers(), Modifier.PUBLIC | Modifier.FINAL);
+        dueTrue("no class above it but Object", OURS.getSuperclass() == Object.class && OURS.getInterfaces().length == 0);
+    }
+
+    private static void constructors() {
+        Constructor<?>[] made = OURS.getDeclaredConstructors();
+        Checks.due("constructors", made.length, 1);
+        dueTrue("constructor", made[0].getModifiers() == Modifier.PUBLIC && made[0].getParameterCount() == 0);
+    }
+
+    private static void inside() {
+        for (Class<?> inside : OURS.getDeclaredClasses()) {
+            int modifiers = inside.getModifiers();
+            dueTrue(inside + " is static", Modifier.isStatic(modifiers));
+            dueTrue(inside + " is not public", (modifiers & (Modifier.PUBLIC | Modifier.PROTECTED)) == 0);
+        }
+    }
+
+    private static void methods() {
         Set<String> seen = new TreeSet<>();
         Set<String> names = new TreeSet<>();
-        for (Method m : face.getDeclaredMethods()) {
+        for (Method m : OURS.getDeclaredMethods()) {
             if (Modifier.isPublic(m.getModifiers())) {
                 seen.add(signature(m));
                 names.add(m.getName());
             }
         }
         Checks.due("the face", seen.toString(), new TreeSet<>(Arrays.asList(FACE)).toString());
-        for (Method m : face.getDeclaredMethods()) {
+        for (Method m : OURS.getDeclaredMethods()) {
             if (!Modifier.isPublic(m.getModifiers())) {
-                Checks.due(m + " is private", Modifier.isPrivate(m.getModifiers()), true);
-                Checks.due(m + " has a public one's name", names.contains(m.getName()), false);
+                dueTrue(m + " is private", Modifier.isPrivate(m.getModifiers()));
+                dueTrue(m + " has no public one's name", !names.contains(m.getName()));
             }
         }
     }
@@ -63,9 +81,10 @@ public final class FaceTest {
         return text.toString();
     }
 
-    private static void fields(Class<?> face) {
+    private static void fields() {
         int open = 0;
-        for (Field f : face.getDeclaredFields()) {
+        Checks.due("NONE", LongNames.NONE, -1);
+        for (Field f : OURS.getDeclaredFields()) {
             if (!Modifier.isPrivate(f.getModifiers())) {
                 open++;
                 Checks.due("public field", f.toString(), "public static final int LongNames.NONE");
