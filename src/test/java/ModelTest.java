@@ -11,8 +11,8 @@ public final class ModelTest {
         2047, 2048, 55295, 55296, 57343, 57344, 65533, 65534, 65535, 65536, -1};
 
     public static void main(String[] args) {
-        Checks.sentence("A LONG RUN: 512 calls and their answers", ModelTest::longRuns);
-        Checks.sentence("A SHORTER RUN: and the slots behind it", ModelTest::shorterRuns);
+        Checks.sentence("all promises, in runs of 512 calls", ModelTest::longRuns);
+        Checks.sentence("all promises, in shorter runs, and all bytes after them", ModelTest::shorterRuns);
         Checks.finish();
     }
 

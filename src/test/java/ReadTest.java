@@ -68,6 +68,11 @@ public final class ReadTest {
                 Checks.due("the row after slot " + call[0] + ", parts " + call[1], x.about(row, 0), 0);
                 Checks.due("its first byte", x.letter(row, 0), -1);
             }
+            Counted other = new Counted().fill(row, "some name");
+            other.write(row, 0, 1);
+            other.poke(0, 13, 0);
+            Checks.due("read of a part with another sum", other.read(row, 1, 1), Names.STATE);
+            Checks.due("the row after it", other.about(row, 0), 0);
             Counted x = new Counted().fill(row, "ab");
             x.write(row, 0, 1);
             x.fill(row, "longer than before");
@@ -100,10 +105,11 @@ public final class ReadTest {
                 Checks.due("row of " + entries[k], x.text(0), names[k]);
             }
         }
-        Counted x = written("with parts before it");
-        x.poke(1, 13, 0);
-        Checks.due("the parts do not count", x.read(1, 2, 0), 8);
-        Checks.due("row 1", x.text(1), "WITHPA~1");
+        Counted x = written("with a part");
+        Checks.due("the part before it does not count", x.read(1, 1, 0), 8);
+        Checks.due("row 1", x.text(1), "WITHAP~1");
+        x.poke(0, 13, 0);
+        Checks.due("nor does it count if it is not as told", x.read(1, 1, 0), 8);
     }
 
     private static void everySize() {
@@ -326,6 +332,26 @@ public final class ReadTest {
         Counted z = written("two parts, then one");
         pokeUnit(z, 1, 12, 0);
         Checks.due("a first part that is not full", z.read(1, 2, 2), Names.STATE);
+        moreThanTheLast();
+    }
+
+    /** Part 1 is marked as the last one, and what stands before it goes on as if there were a part 2 with no units. */
+    private static void moreThanTheLast() {
+        String[] names = {"thirteen unit", "twelve units"};
+        for (String name : names) {
+            Counted x = Counted.with(name);
+            x.write(0, 1, 1);
+            x.pokeText(0, 0, x.slot(1));
+            x.poke(0, 0, 2);
+            pokeUnit(x, 0, 0, name.length() == 13 ? 0 : 65535);
+            for (int i = 1; i < 13; i++) {
+                pokeUnit(x, 0, i, 65535);
+            }
+            Checks.due("one part of " + name, x.read(1, 2, 1), name.length());
+            Checks.due("two parts of " + name, x.read(1, 2, 2), Names.STATE);
+            x.poke(0, 0, 66);
+            Checks.due("two last parts of " + name, x.read(1, 2, 2), Names.STATE);
+        }
     }
 
     private static void tooManyUnits() {
